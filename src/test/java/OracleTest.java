@@ -342,27 +342,97 @@ public final class OracleTest {
         return ways[r.nextInt(ways.length)];
     }
 
-    private static void run(long seed) {
+    private static void compare(String run, FaultTreeDesk x, Model m, String call, int a, int b) {
+        String due = outcome(null, m, call, a, b);
+        String got = outcome(x, m, call, a, b);
+        if (!got.equals(due)) {
+            wrong++;
+            System.out.println(run + ": " + call + "(" + a + ", " + b + ") answered " + got + ", due is " + due);
+        }
+    }
+
+    /** Calls of all sorts, in any order, some of them wrong. */
+    private static void mixedRun(long seed) {
         Random r = new Random(seed);
         FaultTreeDesk x = new FaultTreeDesk();
         Model m = new Model();
         for (int i = 0; i < CALLS; i++) {
             String call = pick(r, i);
             int[] with = arguments(r, m, call);
-            String due = outcome(null, m, call, with[0], with[1]);
-            String got = outcome(x, m, call, with[0], with[1]);
-            if (!got.equals(due)) {
-                wrong++;
-                System.out.println("seed " + seed + ", call " + i + ": " + call + "(" + with[0] + ", " + with[1]
-                    + ") answered " + got + ", due is " + due);
-            }
+            compare("mixed run " + seed + ", call " + i, x, m, call, with[0], with[1]);
         }
+    }
+
+    /** A full tree, and then all that can be asked of it. */
+    private static void treeRun(long seed) {
+        Random r = new Random(seed);
+        String run = "tree " + seed;
+        FaultTreeDesk x = new FaultTreeDesk();
+        Model m = new Model();
+        int events = r.nextInt(3) == 0 ? 1 + r.nextInt(9) : 10;
+        int gates = 2 + r.nextInt(11);
+        for (int e = 0; e < events; e++) compare(run, x, m, "event", r.nextInt(17), 0);
+        for (int g = 0; g < gates; g++) {
+            int kind = r.nextInt(5);
+            compare(run, x, m, "gate", kind, kind == 2 ? 1 + r.nextInt(4) : 0);
+        }
+        for (int i = 0; i < 6 * gates; i++) {
+            int child = r.nextInt(5) < 2 ? 16 + r.nextInt(gates) : r.nextInt(events);
+            compare(run, x, m, "input", r.nextInt(gates), child);
+        }
+        for (int e = 0; e < events; e++) if (r.nextInt(8) == 0) compare(run, x, m, "hold", e, 1 + r.nextInt(2));
+        for (int i = 0; i < 3; i++) {
+            compare(run, x, m, "top", r.nextInt(gates), 0);
+            askAll(run, x, m);
+        }
+    }
+
+    private static void askAll(String run, FaultTreeDesk x, Model m) {
+        for (String call : new String[] {"odds", "nodes", "modules"}) compare(run, x, m, call, 0, 0);
+        for (int s = 0; s < 1 << m.n(); s++) compare(run, x, m, "value", s, 0);
+        for (int i = 0; i <= 60; i++) compare(run, x, m, "digit", i, 0);
+        for (int i = 0; i <= 10; i++) {
+            compare(run, x, m, "weight", i, 0);
+            compare(run, x, m, "share", i, 0);
+            compare(run, x, m, "primes", i, 0);
+        }
+        for (int k = -1; k <= Math.min(301, m.allPrimes().size()); k++) {
+            compare(run, x, m, "prime", k, 0);
+            compare(run, x, m, "prime", k, 1);
+        }
+    }
+
+    /** Gates as {kind, k, child, child, ..}, the last one the top, over ten events. */
+    private static void edgeRun(int terms, int[][] gates) {
+        String run = "tree with " + terms + " prime terms";
+        FaultTreeDesk x = new FaultTreeDesk();
+        Model m = new Model();
+        for (int e = 0; e < 10; e++) compare(run, x, m, "event", e + 3, 0);
+        for (int[] gate : gates) compare(run, x, m, "gate", gate[0], gate[1]);
+        for (int g = 0; g < gates.length; g++) {
+            for (int i = 2; i < gates[g].length; i++) compare(run, x, m, "input", g, gates[g][i]);
+        }
+        compare(run, x, m, "top", gates.length - 1, 0);
+        if (m.allPrimes().size() != terms) {
+            wrong++;
+            System.out.println(run + ": the model finds " + m.allPrimes().size());
+        }
+        askAll(run, x, m);
     }
 
     public static void main(String[] args) {
         int runs = args.length > 0 ? Integer.parseInt(args[0]) : 60;
-        for (int seed = 1; seed <= runs; seed++) run(seed);
-        System.out.println(wrong == 0 ? runs + " runs agree with the model" : wrong + " answers differ from the model");
+        edgeRun(300, new int[][] {
+            {3, 0, 6, 4, 2, 3}, {3, 0, 9, 7, 16, 1}, {0, 0, 0, 17, 16, 5}, {3, 0, 8, 18, 5, 17}
+        });
+        edgeRun(301, new int[][] {
+            {3, 0, 9, 0, 4, 5}, {2, 2, 9, 6, 5}, {3, 0, 17, 8}, {3, 0, 1, 2, 16, 6}, {2, 2, 18, 19, 3, 7}
+        });
+        for (int seed = 1; seed <= runs; seed++) {
+            mixedRun(seed);
+            treeRun(seed);
+        }
+        System.out.println(wrong == 0 ? 2 * runs + " runs agree with the model" : wrong + " answers differ from the model");
         if (wrong != 0) System.exit(1);
     }
 }
