@@ -264,13 +264,6 @@ public final class FaultTreeDesk {
             count++;
             return count - 1;
         }
-
-        int onFactor(int event) {
-            if (holds[event] == FREE) {
-                return chances[event];
-            }
-            return holds[event] == HELD_ON ? WHOLE_CHANCE : 0;
-        }
     }
 
     /** The gates: sets of children and of what is below are ints with a bit for each code. */
@@ -465,7 +458,8 @@ public final class FaultTreeDesk {
                 cells[s] = truth.isTrue(s) ? 1L : 0L;
             }
             for (int e = 0; e < events.count; e++) {
-                int on = e == swung ? WHOLE_CHANCE : events.onFactor(e);
+                // A held event makes no difference in the table, so its chance makes none here.
+                int on = e == swung ? WHOLE_CHANCE : events.chances[e];
                 int off = e == swung ? -WHOLE_CHANCE : WHOLE_CHANCE - on;
                 size /= 2;
                 for (int j = 0; j < size; j++) {

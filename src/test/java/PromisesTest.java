@@ -252,6 +252,7 @@ public final class PromisesTest {
         FaultTreeDesk x = withTop(XOR, 0, 1, 2);
         due("bits of no event", x.value(~0), false);
         due("bits of no event", x.value(LEAST | 4 | 1), true);
+        for (int bit = 2; bit < 32; bit++) due("bit of no event " + bit, x.value(1 << bit | 2), true);
         FaultTreeDesk y = tenEvents();
         int low = gateOf(y, XOR, 0, 0, 3, 6, 9);
         y.top(gateOf(y, VOTE, 2, G + low, 5, 7, 8));
@@ -399,6 +400,7 @@ public final class PromisesTest {
         FaultTreeDesk zero = withTop(AND, 0, 0, 0);
         due("chance counts for nothing", zero.primes(10), 1);
         consensus();
+        moreEvents();
         FaultTreeDesk full = exactly300();
         due("300 prime terms", full.primes(10), 300);
         FaultTreeDesk more = exactly301();
@@ -431,6 +433,25 @@ public final class PromisesTest {
         x.input(3, 2);
         due("choice, or 2: all", x.primes(10), 2);
         due("choice, or 2: primes(1)", x.primes(1), 1);
+    }
+
+    /** Events that are below nothing come while answers are known. */
+    private static void moreEvents() {
+        FaultTreeDesk x = withTop(VOTE, 2, 4, 8, 1);
+        long odds = 640;
+        for (int e = 3; e < 10; e++) {
+            due("odds with " + e + " events", x.odds(), odds);
+            due("nodes with " + e + " events", x.nodes(), 4);
+            x.event(e);
+            odds *= 16;
+            due("primes with one more", x.primes(2), 3);
+            due("primes with one more", x.primes(10), 3);
+        }
+        FaultTreeDesk y = withEvents(1, 1, 1, 1, 1, 1);
+        y.top(gateOf(y, AND, 0, 4, 5));
+        due("odds with six events", y.odds(), 1 << 16);
+        y.event(1);
+        due("primes, first asked with seven", y.primes(2), 1);
     }
 
     private static FaultTreeDesk exactly300() {
