@@ -276,34 +276,59 @@ public final class OracleTest {
         }
     }
 
-    private static long ask(FaultTreeDesk x, String call, int a, int b) {
-        switch (call) {
-            case "event": return x.event(a);
-            case "chance": return x.chance(a, b);
-            case "hold": return x.hold(a, b);
-            case "gate": return x.gate(a, b);
-            case "input": return x.input(a, b);
-            case "top": x.top(a); return 0;
-            case "value": return x.value(a) ? 1 : 0;
-            case "odds": return x.odds();
-            case "digit": return x.digit(a);
-            case "weight": return x.weight(a);
-            case "nodes": return x.nodes();
-            case "primes": return x.primes(a);
-            case "prime": return x.prime(a, b);
-            case "share": return x.share(a);
-            default: return x.modules();
+    /**
+     * The program, made anew by the same calls when an object has been used for 512: what it
+     * answers later is free.
+     */
+    private static final class Program {
+        final List<Object[]> changes = new ArrayList<>();
+        FaultTreeDesk desk = new FaultTreeDesk();
+        int used = 0;
+
+        long answer(String call, int a, int b) {
+            if (used == CALLS) makeAnew();
+            used++;
+            long answer = ask(call, a, b);
+            if (CHANGING.contains(call)) changes.add(new Object[] {call, a, b});
+            return answer;
+        }
+
+        void makeAnew() {
+            desk = new FaultTreeDesk();
+            used = changes.size();
+            for (Object[] change : changes) ask((String) change[0], (int) change[1], (int) change[2]);
+        }
+
+        long ask(String call, int a, int b) {
+            switch (call) {
+                case "event": return desk.event(a);
+                case "chance": return desk.chance(a, b);
+                case "hold": return desk.hold(a, b);
+                case "gate": return desk.gate(a, b);
+                case "input": return desk.input(a, b);
+                case "top": desk.top(a); return 0;
+                case "value": return desk.value(a) ? 1 : 0;
+                case "odds": return desk.odds();
+                case "digit": return desk.digit(a);
+                case "weight": return desk.weight(a);
+                case "nodes": return desk.nodes();
+                case "primes": return desk.primes(a);
+                case "prime": return desk.prime(a, b);
+                case "share": return desk.share(a);
+                default: return desk.modules();
+            }
         }
     }
 
-    private static String outcome(FaultTreeDesk x, Model m, String call, int a, int b) {
+    private static String outcome(Program x, Model m, String call, int a, int b) {
         try {
-            return Long.toString(x != null ? ask(x, call, a, b) : m.answer(call, a, b));
+            return Long.toString(x != null ? x.answer(call, a, b) : m.answer(call, a, b));
         } catch (RuntimeException e) {
             return "throws " + e.getClass().getSimpleName();
         }
     }
 
+    private static final Set<String> CHANGING = Set.of("event", "chance", "hold", "gate", "input", "top");
     private static final String[] ASKING = {
         "value", "odds", "digit", "weight", "nodes", "primes", "prime", "share", "modules"
     };
@@ -342,7 +367,7 @@ public final class OracleTest {
         return ways[r.nextInt(ways.length)];
     }
 
-    private static void compare(String run, FaultTreeDesk x, Model m, String call, int a, int b) {
+    private static void compare(String run, Program x, Model m, String call, int a, int b) {
         String due = outcome(null, m, call, a, b);
         String got = outcome(x, m, call, a, b);
         if (!got.equals(due)) {
@@ -354,7 +379,7 @@ public final class OracleTest {
     /** Calls of all sorts, in any order, some of them wrong. */
     private static void mixedRun(long seed) {
         Random r = new Random(seed);
-        FaultTreeDesk x = new FaultTreeDesk();
+        Program x = new Program();
         Model m = new Model();
         for (int i = 0; i < CALLS; i++) {
             String call = pick(r, i);
@@ -367,7 +392,7 @@ public final class OracleTest {
     private static void treeRun(long seed) {
         Random r = new Random(seed);
         String run = "tree " + seed;
-        FaultTreeDesk x = new FaultTreeDesk();
+        Program x = new Program();
         Model m = new Model();
         int events = r.nextInt(3) == 0 ? 1 + r.nextInt(9) : 10;
         int gates = 2 + r.nextInt(11);
@@ -387,7 +412,7 @@ public final class OracleTest {
         }
     }
 
-    private static void askAll(String run, FaultTreeDesk x, Model m) {
+    private static void askAll(String run, Program x, Model m) {
         for (String call : new String[] {"odds", "nodes", "modules"}) compare(run, x, m, call, 0, 0);
         for (int s = 0; s < 1 << m.n(); s++) compare(run, x, m, "value", s, 0);
         for (int i = 0; i <= 60; i++) compare(run, x, m, "digit", i, 0);
@@ -405,7 +430,7 @@ public final class OracleTest {
     /** Gates as {kind, k, child, child, ..}, the last one the top, over ten events. */
     private static void edgeRun(int terms, int[][] gates) {
         String run = "tree with " + terms + " prime terms";
-        FaultTreeDesk x = new FaultTreeDesk();
+        Program x = new Program();
         Model m = new Model();
         for (int e = 0; e < 10; e++) compare(run, x, m, "event", e + 3, 0);
         for (int[] gate : gates) compare(run, x, m, "gate", gate[0], gate[1]);

@@ -253,15 +253,26 @@ public final class PromisesTest {
         due("bits of no event", x.value(~0), false);
         due("bits of no event", x.value(LEAST | 4 | 1), true);
         for (int bit = 2; bit < 32; bit++) due("bit of no event " + bit, x.value(1 << bit | 2), true);
-        FaultTreeDesk y = tenEvents();
-        int low = gateOf(y, XOR, 0, 0, 3, 6, 9);
-        y.top(gateOf(y, VOTE, 2, G + low, 5, 7, 8));
-        for (int s = 0; s < 1024; s++) {
-            int votes = Integer.bitCount(s & 0x249) % 2 + Integer.bitCount(s & 0x1A0);
-            due("ten events, value(" + s + ")", y.value(s), votes >= 2);
-        }
+        for (int from = 0; from < 1024; from += 256) valuesOfTen(from);
+        FaultTreeDesk y = votesOfTen();
         due("above ten events", y.value(1024 | 0x20), false);
         due("above ten events", y.value(-1024 | 0x180), true);
+    }
+
+    private static FaultTreeDesk votesOfTen() {
+        FaultTreeDesk x = tenEvents();
+        int low = gateOf(x, XOR, 0, 0, 3, 6, 9);
+        x.top(gateOf(x, VOTE, 2, G + low, 5, 7, 8));
+        return x;
+    }
+
+    /** A quarter of the settings, for what an object answers behind its 512th call is free. */
+    private static void valuesOfTen(int from) {
+        FaultTreeDesk x = votesOfTen();
+        for (int s = from; s < from + 256; s++) {
+            int votes = Integer.bitCount(s & 0x249) % 2 + Integer.bitCount(s & 0x1A0);
+            due("ten events, value(" + s + ")", x.value(s), votes >= 2);
+        }
     }
 
     private static void valuesOf(int kind, int k, int size) {
@@ -503,7 +514,7 @@ public final class PromisesTest {
         FaultTreeDesk full = exactly300();
         due("the last of 300", full.prime(299, 0) >= 0, true);
         refused("none behind it", INDEX, () -> full.prime(300, 0));
-        inOrder(full);
+        inOrder();
         FaultTreeDesk more = exactly301();
         refused("of 301", UNSUPPORTED, () -> more.prime(0, 0));
         refused("of 301, none", UNSUPPORTED, () -> more.prime(-1, 0));
@@ -520,14 +531,23 @@ public final class PromisesTest {
         return x;
     }
 
-    private static void inOrder(FaultTreeDesk x) {
+    /** Asked of a new object every 200 terms, so that none is used for more than 512 calls. */
+    private static int[][] all300() {
+        int[][] found = new int[300][];
+        FaultTreeDesk x = exactly300();
+        for (int k = 0; k < 300; k++) {
+            if (k == 200) x = exactly300();
+            found[k] = new int[] {x.prime(k, 0), x.prime(k, 1)};
+        }
+        return found;
+    }
+
+    private static void inOrder() {
         long before = -1;
-        for (int k = 0; k < x.primes(10); k++) {
-            int on = x.prime(k, 0);
-            int off = x.prime(k, 1);
-            long key = (long) Integer.bitCount(on | off) << 20 | on << 10 | off;
-            due("prime(" + k + ") is behind the one before", key > before, true);
-            due("prime(" + k + ") has no event both ways", on & off, 0);
+        for (int[] term : all300()) {
+            long key = (long) Integer.bitCount(term[0] | term[1]) << 20 | term[0] << 10 | term[1];
+            due("a term is behind the one before", key > before, true);
+            due("a term has no event both ways", term[0] & term[1], 0);
             before = key;
         }
     }
@@ -554,7 +574,7 @@ public final class PromisesTest {
         refused("no top, no event", ARGUMENT, () -> none.share(1));
         FaultTreeDesk full = exactly300();
         int together = 0;
-        for (int k = 0; k < 300; k++) together += (full.prime(k, 0) | full.prime(k, 1)) >> 8 & 1;
+        for (int[] term : all300()) together += (term[0] | term[1]) >> 8 & 1;
         due("of 300", full.share(8), together);
     }
 
