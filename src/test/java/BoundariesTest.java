@@ -558,6 +558,26 @@ public final class BoundariesTest {
         due("with one of the two as the top", y.modules(), 1 << shared | 1 << left);
     }
 
+    private static void thereIsNoTop() {
+        FaultTreeDesk x = withEvents(4, 8);
+        gateOf(x, AND, 0, 0, 1);
+        for (int setting : new int[] {0, 3, -1}) refused("value(" + setting + ")", STATE, () -> x.value(setting));
+        refused("odds()", STATE, () -> x.odds());
+        for (int i : new int[] {0, 60}) refused("digit(" + i + ")", STATE, () -> x.digit(i));
+        for (int e : new int[] {0, 1}) {
+            refused("weight(" + e + ")", STATE, () -> x.weight(e));
+            refused("share(" + e + ")", STATE, () -> x.share(e));
+        }
+        refused("nodes()", STATE, () -> x.nodes());
+        for (int most : new int[] {0, 10}) refused("primes(" + most + ")", STATE, () -> x.primes(most));
+        for (int what : new int[] {0, 1}) refused("prime(0, " + what + ")", STATE, () -> x.prime(0, what));
+        refused("modules()", STATE, () -> x.modules());
+        due("what does not tell of the top: hold", x.hold(0, FREE), FREE);
+        due("chance", x.chance(0, 4), 4);
+        x.top(0);
+        due("with a top", x.odds(), 32);
+    }
+
     private static void theOneNamedFirst() {
         FaultTreeDesk full = exactly301();
         for (int g = 5; g < 12; g++) full.gate(OR, 0);
@@ -910,7 +930,9 @@ public final class BoundariesTest {
         due("300 in all", full.primes(10), 300);
         due("none without events", full.primes(0), 0);
         FaultTreeDesk more = exactly301();
-        for (int most : new int[] {0, 1, 9, 10}) refused("301 in all, primes(" + most + ")", UNSUPPORTED, () -> more.primes(most));
+        for (int most : new int[] {0, 1, 9, 10}) {
+            refused("301 in all, primes(" + most + ")", UNSUPPORTED, () -> more.primes(most));
+        }
         due("odds of it", more.odds() > 0, true);
         FaultTreeDesk odd = topOfTen(XOR, 3);
         for (int most : new int[] {0, 9, 10}) refused("512 in all, primes(" + most + ")", UNSUPPORTED, () -> odd.primes(most));
@@ -1059,6 +1081,7 @@ public final class BoundariesTest {
         check("Terms: PRIME, with some left out none causes the top", BoundariesTest::nothingCanBeLeftOut);
         check("Terms: a MODULE is the top or below it", BoundariesTest::modulesAreTheTopOrBelow);
         check("Terms: a MODULE has what is below it for itself", BoundariesTest::modulesStandAlone);
+        check("Terms: in those that tell of the top: there is none", BoundariesTest::thereIsNoTop);
         check("Terms: of several exceptions the one named first", BoundariesTest::theOneNamedFirst);
     }
 
