@@ -792,6 +792,32 @@ public final class BoundariesTest {
         }
     }
 
+    private static void valueRefused() {
+        FaultTreeDesk x = withEvents(1);
+        x.gate(OR, 0);
+        for (int setting : new int[] {0, 1, -1, LEAST, MOST}) {
+            refused("value(" + setting + ")", STATE, () -> x.value(setting));
+        }
+        x.top(0);
+        due("with a top", x.value(1), false);
+    }
+
+    // Promise 9.
+
+    private static void oddsAtTheirEdges() {
+        FaultTreeDesk x = alike(10, 1);
+        x.gate(OR, 0);
+        refused("no top", STATE, () -> x.odds());
+        x.top(0);
+        due("a top without children", x.odds(), 0);
+        x.input(0, 9);
+        due("one event of ten", x.odds(), WHOLE / 16);
+        x.chance(9, 0);
+        due("one that never fails", x.odds(), 0);
+        x.chance(9, 16);
+        due("one that always does", x.odds(), WHOLE);
+    }
+
     // Promise 10.
 
     private static void digits(FaultTreeDesk x, String what, long odds, int events) {
@@ -844,6 +870,9 @@ public final class BoundariesTest {
         FaultTreeDesk x = topOf(OR, 0, 16);
         due("its own chance does not matter", x.weight(0), 16);
         for (int e : new int[] {-1, 1, 32, LEAST, MOST}) refused("weight(" + e + ")", ARGUMENT, () -> x.weight(e));
+        FaultTreeDesk none = withEvents(1);
+        refused("no top, weight(0)", STATE, () -> none.weight(0));
+        refused("no top, weight(1)", ARGUMENT, () -> none.weight(1));
         FaultTreeDesk y = topOf(AND, 0, 8, 8);
         y.hold(1, OFF);
         due("while another is held off", y.weight(0), 0);
@@ -870,6 +899,7 @@ public final class BoundariesTest {
 
     private static void nodesAtTheirEdges() {
         FaultTreeDesk none = new FaultTreeDesk();
+        refused("no top", STATE, () -> none.nodes());
         none.top(none.gate(AND, 0));
         due("no events", none.nodes(), 0);
         FaultTreeDesk never = alike(10, 3);
@@ -1097,7 +1127,9 @@ public final class BoundariesTest {
         check("Promise 6: refused and nothing changed", BoundariesTest::inputRefusedChangesNothing);
         check("Promise 7: no such gate", BoundariesTest::topRefused);
         check("Promise 8: bits of no event count for nothing", BoundariesTest::bitsOfNoEvent);
-        check("Promises 9 and 10: 0 .. 60, cut, not rounded", BoundariesTest::digitsFrom0To60);
+        check("Promise 8: illegal state", BoundariesTest::valueRefused);
+        check("Promise 9: the odds; illegal state", BoundariesTest::oddsAtTheirEdges);
+        check("Promise 10: 0 .. 60, cut, not rounded", BoundariesTest::digitsFrom0To60);
         check("Promise 11: held on, less held off", BoundariesTest::weightAtItsEdges);
         check("Promise 11: weight changes nothing", BoundariesTest::weightLeavesAllAsItIs);
         check("Promise 12: of which e itself changes something", BoundariesTest::nodesAtTheirEdges);
