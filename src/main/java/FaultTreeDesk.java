@@ -483,6 +483,7 @@ public final class FaultTreeDesk {
     /** Counts functions as a decision diagram with the highest event first has nodes. */
     private static final class Diagram {
         private final int[] cells = new int[MOST_SETTINGS];
+        /** There is room: a round adds one for each of its cells at most, and all rounds 1023. */
         private final int[] pairs = new int[MOST_SETTINGS];
         private int count = 0;
 
